@@ -194,6 +194,7 @@ public final class PromisesTest {
         same("refused", x.room(), -3);
         counts(x, 27, 3, 4, 12, 112, 6, 1, 2, 1);
         same("kept stays", x.again(0), 1);
+        same("step", x.step(2), 3);
         tell(x, "RT43B000");
         same("room", x.room(), 11);
         counts(x, 8, 1, 1, 3, 3, 1, 0, 0, 1);
@@ -410,6 +411,14 @@ public final class PromisesTest {
         same("worst, mess", set.worst(-1, 0), -2);
         same("worst, what", set.worst(0, 2), -2);
         same("worst, what", set.worst(0, -1), -2);
+        FiveRemotes most = made("RT40T40T40T40B000B100B200B300");
+        same("worst of the most messes", most.worst(3333, 0), 12);
+        same("can of the most messes", most.worst(3333, 1), 256);
+        same("fewest to the last mess", most.fewest(3333, false), 12);
+        same("all of them may be", most.may(0), 256);
+        same("all buttons", most.needed(3333), 15);
+        same("share", most.share(3, 3333, true), 255);
+        same("share", most.share(3, 3333, false), 4);
         same("worst of nothing", made("R").worst(0, 0), 0);
         same("can of nothing", made("R").worst(0, 1), 1);
     }
@@ -443,6 +452,7 @@ public final class PromisesTest {
         same("set", x.needed(22), 2);
         same("never", made("RT20T20B011").needed(1), -9);
         same("the least of like ones", made("RT20B000B000B011B000").needed(1), 1);
+        same("all", made("RT20T20B000B100").needed(11), 3);
         same("fewer ahead of less", made("RT20T20B000B100B020").needed(11), 4);
         same("mess", x.needed(14), -2);
         same("mess", x.needed(-1), -2);
@@ -453,6 +463,8 @@ public final class PromisesTest {
         promise(19);
         FiveRemotes x = made(ROOM);
         same("none", x.judge(2, 14), -9);
+        same("one", x.judge(1, 1), -9);
+        same("one", x.judge(1, 4), 0);
         same("changes nothing", x.judge(2, 41), 0);
         same("the second changes nothing", x.judge(3, 224), 1);
         same("the last changes nothing", x.judge(3, 114), 2);
@@ -541,6 +553,8 @@ public final class PromisesTest {
         same("see", x.see(0, 0, 15), 1);
         same("bits", x.may(2), 15);
         same("least", x.may(1), 1111);
+        same("which", x.tells(false), 0);
+        same("how many", x.tells(true), 1);
     }
 
     private static void tells() {
@@ -594,6 +608,8 @@ public final class PromisesTest {
         same("they strive", strife.rests(0, 2, 0, 0, 1), -9);
         FiveRemotes last = made("RT30B012");
         same("one of both", last.rests(0, 2, 0, 2, 0), 2);
+        same("both want what the last button sets", made("RT20T40B000B113").rests(1, 3, 1, 3, 1), 2);
+        same("none of these", made("RT20T40B000B113").rests(1, 3, 1, 3, 0), 2);
         same("the second one", last.rests(0, 2, 0, 2, 1), 1);
         same("UNKNOWN", x.rests(2, 0, 0, 0, 0), -1);
         same("UNKNOWN", x.rests(0, 0, -1, 0, 0), -1);
@@ -616,6 +632,8 @@ public final class PromisesTest {
         same("lower", x.weak(0, 2, 1, 3, false), 50);
         same("upper", x.weak(0, 3, 0, 5, true), 1);
         same("lower", x.weak(0, 3, 0, 5, false), 4);
+        same("once", x.weak(0, 1, 1, 4, true), 3);
+        same("once", x.weak(0, 1, 1, 4, false), 5);
         same("never missed", x.weak(0, 4, 1, 0, true), 1);
         same("never missed", x.weak(0, 4, 1, 0, false), 1);
         same("never", x.weak(0, 4, 0, 0, true), 0);
