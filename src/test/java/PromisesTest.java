@@ -1,9 +1,7 @@
 /** For each promise of ../shared/DOC.md: ordinary inputs, edges and refusals, with answers worked out by hand. */
-public final class PromisesTest {
+public final class PromisesTest extends Checks {
     /** Thing 0: 2 states, in 0. Thing 1: 3, in 1. Thing 2: 4, in 2. Buttons: step 0; set 1 to 2; shared 1 and 2; 2 needs 0. */
     private static final String ROOM = "RT20T31T42B000B112B120B230";
-    private static int wrong = 0;
-    private static int checked = 0;
     private static int promise = 0;
 
     private PromisesTest() { }
@@ -40,37 +38,14 @@ public final class PromisesTest {
         keep();
         again();
         count();
-        System.out.println("promises: " + checked + " answers, " + wrong + " wrong");
-        if (wrong != 0 || promise != 31) System.exit(1);
+        if (promise != 31) wrong("promises that were tested: " + promise);
+        end("promises");
     }
 
     private static void promise(int number) {
-        if (number != promise + 1) same("order of the promises", number, promise + 1);
+        sentence("Promise " + number);
+        if (number != promise + 1) wrong("comes behind promise " + promise);
         promise = number;
-    }
-
-    private static void same(String call, long got, long want) {
-        checked++;
-        if (got == want) return;
-        wrong++;
-        System.out.println("promise " + promise + ": " + call + " answered " + got + ", due is " + want);
-    }
-
-    private static void tell(FiveRemotes x, String text) {
-        x.wipe();
-        for (int i = 0; i < text.length(); i++) same("write", x.write(text.charAt(i)), i + 1);
-    }
-
-    private static FiveRemotes made(String text) {
-        FiveRemotes x = new FiveRemotes();
-        tell(x, text);
-        same("room of " + text, x.room() >= 0 ? 1 : 0, 1);
-        return x;
-    }
-
-    /** The nine counts, which a refused call must leave as they are. */
-    private static void counts(FiveRemotes x, long... due) {
-        for (int what = 0; what < due.length; what++) same("count(" + what + ")", x.count(what), due[what]);
     }
 
     private static void newObject() {
