@@ -37,6 +37,8 @@ public final class ChancesBoundsTest extends Checks {
         eveningsWithoutButton();
         eveningsMostAndLeast();
         eveningsChangeTheSeedAlone();
+        fromWhatIs();
+        fromEveryMess();
         end("bounds of shares, rests and chances");
     }
 
@@ -387,5 +389,42 @@ public final class ChancesBoundsTest extends Checks {
         long first = x.evenings(30);
         x.seed(0);
         same("a second time from what is", x.evenings(30), first);
+    }
+
+    // ---- from where
+
+    private static void fromWhatIs() {
+        sentence("RESTS, WEAK, EVENINGS: from what is, not from what is BELIEVED");
+        FiveRemotes x = made("RT40T20B000");
+        same("step", x.step(0), 1);
+        same("step", x.step(0), 2);
+        same("step", x.step(1), 1);
+        counts(x, 11, 2, 1, 21, 0);
+        same("none presses: how many", x.rests(0, 2, 1, 1, 0), 1);
+        same("none presses: the first", x.rests(0, 2, 1, 1, 1), 0);
+        same("weak", x.weak(0, 1, 31, 0, true), 1);
+        same("weak", x.weak(0, 1, 10, 0, true), 0);
+        same("weak", x.weak(0, 1, 21, 10, true), 1);
+        FiveRemotes y = made("RT20T20T20");
+        same("step", y.step(0), 1);
+        same("step", y.step(2), 1);
+        same("evenings", y.evenings(3), 6);
+        FiveRemotes z = made("RT20T20T20B020");
+        same("miss", z.miss(0), 111);
+        same("evenings, the third BUTTON, that there is not", z.evenings(1), 0);
+    }
+
+    private static void fromEveryMess() {
+        sentence("SHARE, WORST, SURE: from every MESS, whatever is");
+        for (int steps = 0; steps <= 5; steps++) {
+            FiveRemotes x = made("RT40T20B000B011B111");
+            for (int step = 0; step < steps; step++) x.step(step % 2);
+            // 21 is reached from 1 MESS by none, 4 by the first BUTTON, 1 by the second, 2 by the third; 4, 8 and 2 by pairs; 8 by all
+            same("share, above", x.share(0, 21, true), 9);
+            same("share, below", x.share(0, 21, false), 2);
+            same("worst", x.worst(21, 0), 3);
+            same("can", x.worst(21, 1), 8);
+            same("sure", x.sure(21, true), 213);
+        }
     }
 }

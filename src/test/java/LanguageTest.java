@@ -1,8 +1,11 @@
 import java.io.IOException;
 import java.nio.file.Files;
 import java.nio.file.Path;
+import java.util.ArrayList;
 import java.util.Arrays;
+import java.util.IdentityHashMap;
 import java.util.List;
+import java.util.Map;
 import java.util.Set;
 import java.util.TreeSet;
 import java.util.regex.Matcher;
@@ -31,7 +34,10 @@ public final class LanguageTest {
         imports(code);
         indexes(code);
         methods(code);
+        madeInConstructors(code);
         face();
+        classes();
+        oneRoom();
         System.out.println("language: " + wrong + " wrong");
         if (wrong != 0) System.exit(1);
     }
@@ -90,6 +96,65 @@ public final class LanguageTest {
             if (constant != Modifier.isPublic(field.getModifiers())) wrong("the field " + field.getName());
             if (!constant && !Modifier.isPrivate(field.getModifiers())) wrong("the field " + field.getName());
         }
-        if (FiveRemotes.class.getDeclaredClasses().length > 11) wrong("more than twelve classes");
+    }
+
+    /** What a call made would be counted once for each call of a run: rows are made with the object and used again. */
+    private static void madeInConstructors(String code) {
+        String rest = code.replaceAll("(?s)\\n +(public FiveRemotes\\(\\)|Shelf\\(int places\\)) \\{.*?\\n +\\}", "");
+        for (String line : rest.split("\n")) {
+            if (line.matches(".*\\bnew\\b.*") && !line.trim().startsWith("private final")) wrong("made in a call: " + line.trim());
+        }
+    }
+
+    private static void classes() {
+        List<Class<?>> all = new ArrayList<>(Arrays.asList(FiveRemotes.class.getDeclaredClasses()));
+        all.add(FiveRemotes.class);
+        if (all.size() > 12) wrong("more than twelve classes");
+        for (Class<?> one : all) {
+            int fields = 0;
+            for (Field field : one.getDeclaredFields()) {
+                boolean fixed = Modifier.isStatic(field.getModifiers());
+                if (!fixed) fields++;
+                if (fixed && !Modifier.isFinal(field.getModifiers())) wrong("a static field that is not final: " + field);
+            }
+            if (fields > 20) wrong("more than twenty fields in " + one);
+            for (Method method : one.getDeclaredMethods()) {
+                if (method.getParameterCount() > 7) wrong("more than seven parameters: " + method);
+            }
+            if (one != FiveRemotes.class && !Modifier.isStatic(one.getModifiers())) wrong("a class that is not static: " + one);
+        }
+    }
+
+    /** One object with all that it holds, in objects and arrays and in fields and elements: a hundredth of the room at most. */
+    private static void oneRoom() {
+        Map<Object, Integer> held = new IdentityHashMap<>();
+        weigh(new FiveRemotes(), held);
+        int elements = held.values().stream().mapToInt(Integer::intValue).sum();
+        System.out.println("one object holds " + held.size() + " objects and arrays, " + elements + " fields and elements");
+        if (held.size() > 6000 || elements > 73000) wrong("an object takes too much of the room");
+    }
+
+    private static void weigh(Object object, Map<Object, Integer> held) {
+        if (object == null || held.containsKey(object)) return;
+        if (object instanceof int[]) {
+            held.put(object, ((int[]) object).length);
+            return;
+        }
+        held.put(object, 0);
+        for (Field field : object.getClass().getDeclaredFields()) {
+            if (Modifier.isStatic(field.getModifiers())) continue;
+            held.merge(object, 1, Integer::sum);
+            if (!field.getType().isPrimitive()) weigh(valueOf(field, object), held);
+        }
+    }
+
+    private static Object valueOf(Field field, Object object) {
+        field.setAccessible(true);
+        try {
+            return field.get(object);
+        } catch (IllegalAccessException refused) {
+            wrong("a field that can't be read: " + field);
+            return null;
+        }
     }
 }

@@ -22,6 +22,7 @@ public final class SeenBoundsTest extends Checks {
         howManyMayBe();
         leastThatMayBe();
         thingsInOneState();
+        thingsInOneStateOfAll();
         noneMayBe();
         fromTheMessThatIsNow();
         tellsWithoutButtons();
@@ -267,6 +268,23 @@ public final class SeenBoundsTest extends Checks {
         FiveRemotes y = made("RT20T20T20T20B120");
         y.see(1, 9, 3);
         same("nothing is looked at", y.may(2), 0);
+    }
+
+    private static void thingsInOneStateOfAll() {
+        sentence("MAY: THINGS that are in one STATE in all of them: in a STATE that is not off, in the midst as at the ends");
+        FiveRemotes two = made("RT20T30T20");
+        two.see(0, 0, 3);
+        same("110 and 120", two.may(0), 2);
+        same("the first THING is on, the last one off", two.may(2), 5);
+        FiveRemotes three = made("RT20T40T20");
+        three.see(0, 0, 7);
+        same("111, 121 and 131", three.may(0), 3);
+        same("the first THING is on, and the last one", three.may(2), 5);
+        FiveRemotes midst = made("RT20T30B130B010");
+        midst.see(2, 12, 2);
+        same("01, 02, 10 and 11", midst.may(0), 4);
+        same("01, 02, 10 and 11", midst.may(1), 1);
+        same("the second THING is in 1 at the ends alone", midst.may(2), 0);
     }
 
     private static void noneMayBe() {
