@@ -192,6 +192,9 @@ public final class PressesBoundsTest extends Checks {
         same("of orders", made("RT20T20T20B000B100B200").fewest(111, true), 123);
         same("fewer ahead of less", made("RT40B000B012").fewest(2, true), 2);
         same("where one goes on ahead of another", made("RT20T20B130B000").fewest(11, true), 21);
+        same("behind the last STATE", made("RT43B000").fewest(1, true), 11);
+        same("a lesser BUTTON from behind which m can't be reached", made("RT21T20B010B100").fewest(11, true), 2);
+        same("a lesser BUTTON from behind which m is as far", made("RT20T30B000B100B110").fewest(2, true), 22);
         FiveRemotes six = made("RT20T20T20T20B011B010B111B110B230B331");
         same("six of six BUTTONS", six.fewest(11, false), 6);
         same("six of six BUTTONS", six.fewest(11, true), 135264);

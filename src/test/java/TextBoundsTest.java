@@ -370,6 +370,15 @@ public final class TextBoundsTest extends Checks {
         counts(x, 37, 4, 6, 123, 123, 14, 0, 0, 0);
         same("may(0)", x.may(0), 96);
         same("press(1)", x.press(1), 223);
+        makeAnew(x, "RT40T40T40T40B220B110B010B310B010B110");
+        for (int states = 4; states >= 2; states--) {
+            makeAnew(x, "RT" + states + "0B000");
+            same("worst(0, 0)", x.worst(0, 0), states - 1);
+            same("worst(0, 1)", x.worst(0, 1), states);
+            same("share", x.share(0, 0, true), states - 1);
+            same("may(0)", x.may(0), states);
+            same("sure(0)", x.sure(0, true), NONE);
+        }
     }
 
     private static void textIsNotTheRoom() {
